@@ -1,0 +1,61 @@
+/** Counts answers that are not as due, prints each, and ends the test with exit code 1 if there was one. */
+final class Check {
+    private static int wrong = 0;
+    private static int asked = 0;
+
+    private Check() { }
+
+    interface Call {
+        void run();
+    }
+
+    static void same(String what, long got, long due) {
+        asked++;
+        if (got != due) {
+            wrong++;
+            System.out.println(what + " answered " + got + ", due is " + due);
+        }
+    }
+
+    static void same(String what, boolean got, boolean due) {
+        same(what, got ? 1L : 0L, due ? 1L : 0L);
+    }
+
+    static void same(String what, String got, String due) {
+        asked++;
+        if (!got.equals(due)) {
+            wrong++;
+            System.out.println(what + " answered " + got + ", due is " + due);
+        }
+    }
+
+    /** Just this class of exception is due, not one below it. */
+    static void throwsJust(String what, Class<? extends RuntimeException> due, Call call) {
+        String got = "nothing thrown";
+        try {
+            call.run();
+        } catch (RuntimeException e) {
+            got = e.getClass().getName();
+        }
+        same(what, got, due.getName());
+    }
+
+    static void noIndex(String what, Call call) {
+        throwsJust(what, IndexOutOfBoundsException.class, call);
+    }
+
+    static void noArgument(String what, Call call) {
+        throwsJust(what, IllegalArgumentException.class, call);
+    }
+
+    static void notSupported(String what, Call call) {
+        throwsJust(what, UnsupportedOperationException.class, call);
+    }
+
+    static void end() {
+        System.out.println(asked + " answers, " + wrong + " not as due");
+        if (wrong != 0 || asked == 0) {
+            System.exit(1);
+        }
+    }
+}
