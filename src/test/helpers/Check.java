@@ -29,13 +29,20 @@ final class Check {
         }
     }
 
-    /** Just this class of exception is due, not one below it. */
+    /** What a call threw: its class, and whether the machine or the library threw it, not the class under test. */
+    static String thrown(Throwable e) {
+        StackTraceElement[] trace = e.getStackTrace();
+        boolean byItself = trace.length > 0 && !trace[0].getClassName().matches("(BergPatrol|Model)([$].*)?");
+        return e.getClass().getName() + (byItself ? " by itself" : "");
+    }
+
+    /** Just this class of exception is due, not one below it, and by a throw of the class under test. */
     static void throwsJust(String what, Class<? extends RuntimeException> due, Call call) {
         String got = "nothing thrown";
         try {
             call.run();
         } catch (RuntimeException e) {
-            got = e.getClass().getName();
+            got = thrown(e);
         }
         same(what, got, due.getName());
     }

@@ -195,14 +195,16 @@ public final class Model {
     public int berg(int berg, int what) {
         of(bergs, berg);
         Berg b = bergs.get(berg);
+        if (what < 0 || what > 5) {
+            throw new NoSuchElementException();
+        }
         return switch (what) {
             case 0 -> b.size;
             case 1 -> b.age;
             case 2 -> b.gone ? 1 : 0;
             case 3 -> b.parts.size();
             case 4 -> (int) b.parts.values().stream().mapToLong(p -> p).sum();
-            case 5 -> (int) b.out;
-            default -> throw new NoSuchElementException();
+            default -> (int) b.out;
         };
     }
 

@@ -20,6 +20,8 @@ public final class BergTest {
         leaves();
         looks();
         looksAway();
+        everySquare();
+        onePart();
         refusesWrongNumbers();
         Check.end();
     }
@@ -409,6 +411,55 @@ public final class BergTest {
             p.look(105, 10);
         }
         Check.same("gone by many looks, since they round up", p.berg(1, 2), 1);
+    }
+
+    /** No square is left out: where it is told, looked at, melts and becomes land. */
+    private static void everySquare() {
+        for (int s = 0; s < 280; s++) {
+            BergPatrol p = new BergPatrol();
+            int square = s;
+            p.water(s, 0, 0, 0);
+            Check.same("tell at " + s, p.tell(s, 9), 0);
+            Check.same("parts at " + s, p.parts(0, s), ALL);
+            Check.same("all parts at " + s, p.berg(0, 4), ALL);
+            Check.same("squares at " + s, p.berg(0, 3), 1);
+            Check.throwsJust("land at " + s, IllegalStateException.class, () -> p.land(square, true));
+            p.step(1);
+            Check.same("warmth of " + s, p.berg(0, 0), 9);
+            Check.same("all parts around " + s, p.berg(0, 4), ALL);
+            for (int t = 0; t < 280; t++) {
+                if (t != s) {
+                    p.look(t, 100);
+                }
+            }
+            Check.same("not yet gone from " + s, p.berg(0, 2), 0);
+            Check.same("joined at " + s, p.tell(s, 9), 0);
+            Check.same("a look at " + s, p.look(s, 100), ALL);
+            Check.same("gone from " + s, p.berg(0, 2), 1);
+        }
+    }
+
+    /** A berg may be where a single part of it is. */
+    private static void onePart() {
+        BergPatrol p = new BergPatrol();
+        p.water(106, 0, 0, 0);
+        p.tell(106, 100);
+        p.look(106, 99);
+        p.look(106, 99);
+        p.look(106, 99);
+        Check.same("one part", p.parts(0, 106), 1);
+        Check.throwsJust("land there", IllegalStateException.class, () -> p.land(106, true));
+        Check.same("limit there", p.limit(), 4);
+        Check.same("squares", p.count(5), 1);
+        p.step(1);
+        Check.same("its warmth counts", p.berg(0, 0), 100);
+        Check.same("it is joined", p.tell(106, 100), 0);
+        p.look(106, 99);
+        p.look(106, 99);
+        p.look(106, 99);
+        Check.same("a hundredth of one, rounded up", p.look(106, 1), 1);
+        Check.same("gone", p.berg(0, 2), 1);
+        Check.same("one that is gone has nothing to look at", p.look(106, 100), 0);
     }
 
     private static void refusesWrongNumbers() {

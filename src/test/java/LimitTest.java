@@ -29,6 +29,7 @@ public final class LimitTest {
     }
 
     private static void oneSquare() {
+        Check.same("a corner before the limit was asked for", at(105).corner(2, true), 6);
         BergPatrol p = at(105);
         Check.same("limit of one square", limit(p), "5 5,6 5,6 6,5 6");
         Check.same("corner -1", p.corner(-1, false), BergPatrol.NONE);
@@ -91,6 +92,13 @@ public final class LimitTest {
         Check.same("the one that has more", q.flight(), 1000000);
         BergPatrol r = at(260, 241, 222, 20 * 5 + 19, 20 * 4 + 19);
         Check.same("down, and one of the last two", r.flight(), 4000000);
+        for (int s = 0; s < 280; s++) {
+            Check.same("over " + s, at(s).flight(), 1000000);
+            int x = s % 20;
+            int y = s / 20;
+            Check.same("limit at " + s, limit(at(s)), x + " " + y + "," + (x + 1) + " " + y + ","
+                + (x + 1) + " " + (y + 1) + "," + x + " " + (y + 1));
+        }
         BergPatrol ten = at(0, 1, 2, 3, 4, 5, 6, 7, 8, 9);
         Check.same("ten of ten", ten.flight(), 10000000);
         Check.same("three of one x", at(200, 180, 160).flight(), 1000000);

@@ -220,7 +220,7 @@ public final class ModelTest {
                 try {
                     return String.valueOf(m.invoke(object, values));
                 } catch (InvocationTargetException e) {
-                    return "throws " + e.getCause().getClass().getName();
+                    return "throws " + Check.thrown(e.getCause());
                 }
             }
         }

@@ -153,6 +153,11 @@ public final class WarningTest {
         Check.same("capital at its end", Tapes.fault(p, "rinG 0 0"), 0);
         Check.same("capital behind it", Tapes.fault(p, "ringA"), 4);
         Check.same("another word of four", Tapes.fault(p, "rang 0 0"), 0);
+        Check.same("another first letter", Tapes.fault(p, "xing 0 0"), 0);
+        Check.same("another last letter", Tapes.fault(p, "ring 0 0,4 0,4 4 enz"), 17);
+        Check.same("up to z", Tapes.fault(p, "ring 0 0,4 0,4 4 endz"), 17);
+        Check.same("from a on", Tapes.fault(p, "ring 0 0,4 0,4 4 aend"), 17);
+        Check.same("a letter more", Tapes.fault(p, "ringa 0 0"), 0);
         Check.same("end first", Tapes.fault(p, "end"), 0);
         Check.same("no ring", Tapes.fault(p, "0 0,4 0,4 4 end"), 0);
         Check.same("ring twice", Tapes.fault(p, "ring ring 0 0"), 5);
