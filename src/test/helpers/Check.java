@@ -2,6 +2,9 @@
 final class Check {
     private static int wrong = 0;
     private static int asked = 0;
+    private static int askedBefore = 0;
+    private static int sentences = 0;
+    private static String sentence = "";
 
     private Check() { }
 
@@ -9,11 +12,29 @@ final class Check {
         void run();
     }
 
+    /** The document's sentence that the checks from here on hold: a test of its own, with one check at least. */
+    static void about(String words) {
+        endSentence();
+        sentences++;
+        sentence = words;
+        askedBefore = asked;
+    }
+
+    private static void endSentence() {
+        if (sentences > 0 && asked == askedBefore) {
+            say("has no check");
+        }
+    }
+
+    private static void say(String what) {
+        wrong++;
+        System.out.println((sentences > 0 ? "<" + sentence + "> " : "") + what);
+    }
+
     static void same(String what, long got, long due) {
         asked++;
         if (got != due) {
-            wrong++;
-            System.out.println(what + " answered " + got + ", due is " + due);
+            say(what + " answered " + got + ", due is " + due);
         }
     }
 
@@ -24,8 +45,7 @@ final class Check {
     static void same(String what, String got, String due) {
         asked++;
         if (!got.equals(due)) {
-            wrong++;
-            System.out.println(what + " answered " + got + ", due is " + due);
+            say(what + " answered " + got + ", due is " + due);
         }
     }
 
@@ -51,6 +71,14 @@ final class Check {
         throwsJust(what, IndexOutOfBoundsException.class, call);
     }
 
+    static void noState(String what, Call call) {
+        throwsJust(what, IllegalStateException.class, call);
+    }
+
+    static void noElement(String what, Call call) {
+        throwsJust(what, java.util.NoSuchElementException.class, call);
+    }
+
     static void noArgument(String what, Call call) {
         throwsJust(what, IllegalArgumentException.class, call);
     }
@@ -60,7 +88,9 @@ final class Check {
     }
 
     static void end() {
-        System.out.println(asked + " answers, " + wrong + " not as due");
+        endSentence();
+        String of = sentences > 0 ? " to " + sentences + " sentences" : "";
+        System.out.println(asked + " answers" + of + ", " + wrong + " not as due");
         if (wrong != 0 || asked == 0) {
             System.exit(1);
         }

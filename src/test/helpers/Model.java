@@ -286,6 +286,10 @@ public final class Model {
         return add(ring);
     }
 
+    static int firstWrong(String text) {
+        return parse(text, new ArrayList<>());
+    }
+
     /** Things one by one, held against what may stand next. */
     private static int parse(String text, List<Point> ring) {
         Matcher m = Pattern.compile("[a-z]+|[0-9]+|[^ ]", Pattern.DOTALL).matcher(text);

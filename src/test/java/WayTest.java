@@ -102,40 +102,27 @@ public final class WayTest {
         Check.same("but not at it", p.way(0, 1, 10), 5);
     }
 
-    /** The squares of a ring, from the lowest row on: those without a way to themselves. */
-    private static String squares(String ring) {
-        BergPatrol p = new BergPatrol();
-        Tapes.read(p, ring);
-        StringBuilder s = new StringBuilder();
-        for (int i = 0; i < 280; i++) {
-            if (p.way(i, i, 0) == BergPatrol.NONE) {
-                s.append(s.length() > 0 ? " " : "").append(i);
-            }
-        }
-        return s.toString();
-    }
-
     private static void squaresOfRings() {
-        Check.same("one square", squares("ring 5 5,6 5,6 6,5 6 end"), "105");
-        Check.same("round the other way", squares("ring 5 6,6 6,6 5,5 5 end"), "105");
-        Check.same("begun elsewhere", squares("ring 6 6,5 6,5 5,6 5 end"), "105");
+        Check.same("one square", Seas.squaresOf("ring 5 5,6 5,6 6,5 6 end"), "105");
+        Check.same("round the other way", Seas.squaresOf("ring 5 6,6 6,6 5,5 5 end"), "105");
+        Check.same("begun elsewhere", Seas.squaresOf("ring 6 6,5 6,5 5,6 5 end"), "105");
         // The slant side goes through middles: a middle on it is not left of it.
-        Check.same("middles on the right side", squares("ring 0 0,3 0,0 3 end"), "0 1 20");
-        Check.same("middles on the left side", squares("ring 3 0,3 3,0 3 end"), "2 21 22 40 41 42");
-        Check.same("middles on a rising right side", squares("ring 0 0,3 3,0 3 end"), "20 40 41");
-        Check.same("middles on a rising left side", squares("ring 0 0,3 0,3 3 end"), "0 1 2 21 22 42");
-        Check.same("a steep side", squares("ring 0 0,2 0,0 4 end"), "0 1 20 40");
-        Check.same("the ends of the sea", squares("ring 19 13,20 13,20 14,19 14 end"), "279");
-        Check.same("no breadth", squares("ring 0 0,5 5,10 10 end"), "");
-        Check.same("one point", squares("ring 3 3,3 3,3 3 end"), "");
-        Check.same("flat", squares("ring 0 0,20 0,10 0 end"), "");
-        Check.same("upright", squares("ring 3 0,3 14,3 7 end"), "");
+        Check.same("middles on the right side", Seas.squaresOf("ring 0 0,3 0,0 3 end"), "0 1 20");
+        Check.same("middles on the left side", Seas.squaresOf("ring 3 0,3 3,0 3 end"), "2 21 22 40 41 42");
+        Check.same("middles on a rising right side", Seas.squaresOf("ring 0 0,3 3,0 3 end"), "20 40 41");
+        Check.same("middles on a rising left side", Seas.squaresOf("ring 0 0,3 0,3 3 end"), "0 1 2 21 22 42");
+        Check.same("a steep side", Seas.squaresOf("ring 0 0,2 0,0 4 end"), "0 1 20 40");
+        Check.same("the ends of the sea", Seas.squaresOf("ring 19 13,20 13,20 14,19 14 end"), "279");
+        Check.same("no breadth", Seas.squaresOf("ring 0 0,5 5,10 10 end"), "");
+        Check.same("one point", Seas.squaresOf("ring 3 3,3 3,3 3 end"), "");
+        Check.same("flat", Seas.squaresOf("ring 0 0,20 0,10 0 end"), "");
+        Check.same("upright", Seas.squaresOf("ring 3 0,3 14,3 7 end"), "");
     }
 
     private static void crossedRings() {
-        Check.same("twice round is even", squares("ring 0 0,2 0,2 2,0 2,0 0,2 0,2 2,0 2 end"), "");
-        Check.same("a bow tie", squares("ring 0 0,4 4,4 0,0 4 end"), "3 20 22 23 40 42 43 63");
-        Check.same("a hole", squares("ring 0 0,3 0,3 3,0 3,0 0,1 1,2 1,2 2,1 2,1 1 end"), "0 1 2 20 22 40 41 42");
+        Check.same("twice round is even", Seas.squaresOf("ring 0 0,2 0,2 2,0 2,0 0,2 0,2 2,0 2 end"), "");
+        Check.same("a bow tie", Seas.squaresOf("ring 0 0,4 4,4 0,0 4 end"), "3 20 22 23 40 42 43 63");
+        Check.same("a hole", Seas.squaresOf("ring 0 0,3 0,3 3,0 3,0 0,1 1,2 1,2 2,1 2,1 1 end"), "0 1 2 20 22 40 41 42");
     }
 
     private static void refusesWrongNumbers() {
