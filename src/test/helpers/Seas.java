@@ -67,7 +67,8 @@ final class Seas {
 
     static String limit(BergPatrol p) {
         StringBuilder s = new StringBuilder();
-        for (int k = 0; k < p.limit(); k++) {
+        int corners = p.limit();
+        for (int k = 0; k < corners; k++) {
             s.append(k > 0 ? "," : "").append(p.corner(k, false)).append(' ').append(p.corner(k, true));
         }
         return s.toString();

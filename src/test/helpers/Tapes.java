@@ -20,7 +20,8 @@ final class Tapes {
 
     static String all(BergPatrol p) {
         StringBuilder s = new StringBuilder();
-        for (int i = 0; i < p.count(6); i++) {
+        int bytes = p.count(6);
+        for (int i = 0; i < bytes; i++) {
             s.append((char) p.taped(i));
         }
         return s.toString();

@@ -53,7 +53,7 @@ final class Twins {
         addRows(rows, later, p -> "step " + p.step(1));
         for (int w = 0; w < asked.count(3); w++) {
             int warning = w;
-            rows.add(List.of(p -> "write " + p.write(warning), Twins::bytes));
+            rows.add(List.of(p -> "write " + p.write(warning), Tapes::all));
         }
         return rows;
     }
@@ -66,16 +66,6 @@ final class Twins {
             row.addAll(all.subList(i, Math.min(all.size(), i + IN_A_ROW)));
             rows.add(row);
         }
-    }
-
-    private static String bytes(BergPatrol p) {
-        StringBuilder s = new StringBuilder();
-        int b = p.taped(0);
-        for (int i = 1; b != BergPatrol.NONE && i <= 400; i++) {
-            s.append((char) b);
-            b = p.taped(i);
-        }
-        return s.toString();
     }
 
     private static void addCounts(List<Function<BergPatrol, String>> all, boolean withFault) {

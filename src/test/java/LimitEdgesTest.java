@@ -1,4 +1,7 @@
+import java.util.ArrayList;
+import java.util.List;
 import java.util.TreeSet;
+import java.util.function.Supplier;
 
 /** The edges of THE LIMIT (Terms 3), of FLIGHTS (Terms 4) and of promises 11 limit, 12 corner, 21 flight: a test for each sentence. */
 public final class LimitEdgesTest {
@@ -58,20 +61,74 @@ public final class LimitEdgesTest {
         Check.same("two in one square", Seas.limit(Seas.with(5, 5)), "5 0,6 0,6 1,5 1");
     }
 
-    /** Rings around many kinds of shapes, each held against what the document says of a ring. */
-    private static BergPatrol[] shapes() {
-        BergPatrol spread = Seas.with(MIDDLE);
-        spread.step(4);
-        BergPatrol bitten = Seas.with(MIDDLE, 9);
-        bitten.step(3);
-        for (int s = 140; s < 150; s++) {
-            bitten.look(s, 100);
+    /** A limit, and the corners of all squares that it is of. A corner is told as x + 100 y. */
+    private static final class Shape {
+        final String told;
+        final int[] ring;
+        final TreeSet<Integer> corners = new TreeSet<>();
+
+        /** Each berg is asked for in an object of its own, so that none is used for more calls than the document allows. */
+        Shape(Supplier<BergPatrol> maker) {
+            told = Seas.limit(maker.get());
+            String[] pairs = told.split(",");
+            ring = new int[pairs.length];
+            for (int k = 0; k < ring.length; k++) {
+                String[] xy = pairs[k].split(" ");
+                ring[k] = Integer.parseInt(xy[0]) + 100 * Integer.parseInt(xy[1]);
+            }
+            int bergs = maker.get().count(1);
+            for (int b = 0; b < bergs; b++) {
+                addCorners(maker.get(), b);
+            }
         }
-        BergPatrol atTheEnd = Seas.with(279, 0, 19);
-        atTheEnd.step(5);
-        return new BergPatrol[] {spread, bitten, atTheEnd, Seas.with(0, 279), Seas.with(19, 260), Seas.with(0, 21, 42),
-            Seas.with(40, 21, 2), Seas.with(3, 22, 41, 60), Seas.with(0, 41, 82, 123), Seas.with(5, 44, 83, 122),
-            Seas.with(0, 1, 2, 3, 22, 43), Seas.with(105, 106, 125, 126), round()};
+
+        private void addCorners(BergPatrol p, int berg) {
+            for (int s = 0; s < Seas.SQUARES; s++) {
+                if (p.parts(berg, s) > 0) {
+                    int corner = s % 20 + 100 * (s / 20);
+                    corners.addAll(List.of(corner, corner + 1, corner + 100, corner + 101));
+                }
+            }
+        }
+
+        int at(int k) {
+            return ring[k % ring.length];
+        }
+    }
+
+    private static List<Shape> shapes() {
+        List<Shape> all = new ArrayList<>();
+        all.add(new Shape(LimitEdgesTest::spread));
+        all.add(new Shape(LimitEdgesTest::bitten));
+        all.add(new Shape(LimitEdgesTest::atTheEnds));
+        all.add(new Shape(LimitEdgesTest::round));
+        int[][] squares = {{0}, {279}, {0, 279}, {19, 260}, {0, 21, 42}, {40, 21, 2}, {3, 22, 41, 60}, {0, 41, 82, 123},
+            {5, 44, 83, 122}, {0, 1, 2, 3, 22, 43}, {105, 106, 125, 126}};
+        for (int[] s : squares) {
+            all.add(new Shape(() -> Seas.with(s)));
+        }
+        return all;
+    }
+
+    private static BergPatrol spread() {
+        BergPatrol p = Seas.with(MIDDLE);
+        p.step(4);
+        return p;
+    }
+
+    private static BergPatrol bitten() {
+        BergPatrol p = Seas.with(MIDDLE, 9);
+        p.step(3);
+        for (int s = 140; s < 150; s++) {
+            p.look(s, 100);
+        }
+        return p;
+    }
+
+    private static BergPatrol atTheEnds() {
+        BergPatrol p = Seas.with(279, 0, 19);
+        p.step(5);
+        return p;
     }
 
     /** A berg that may be everywhere, looked for in vain outside of a round. */
@@ -88,32 +145,6 @@ public final class LimitEdgesTest {
         return p;
     }
 
-    private static TreeSet<Integer> cornersOfSquares(BergPatrol p) {
-        TreeSet<Integer> all = new TreeSet<>();
-        for (int s = 0; s < Seas.SQUARES; s++) {
-            long parts = 0;
-            for (int b = 0; b < p.count(1); b++) {
-                parts += p.parts(b, s);
-            }
-            if (parts > 0) {
-                int corner = s % 20 + 100 * (s / 20);
-                all.add(corner);
-                all.add(corner + 1);
-                all.add(corner + 100);
-                all.add(corner + 101);
-            }
-        }
-        return all;
-    }
-
-    private static int[] ring(BergPatrol p) {
-        int[] ring = new int[p.limit()];
-        for (int k = 0; k < ring.length; k++) {
-            ring[k] = p.corner(k, false) + 100 * p.corner(k, true);
-        }
-        return ring;
-    }
-
     /** Above 0 if c lies on the left hand of the way from a to b, 0 if on its line. */
     private static int left(int a, int b, int c) {
         return (b % 100 - a % 100) * (c / 100 - a / 100) - (b / 100 - a / 100) * (c % 100 - a % 100);
@@ -121,11 +152,10 @@ public final class LimitEdgesTest {
 
     private static void withinOrOnIt() {
         Check.about("Terms 3: the convex one that has all of them within or on it");
-        for (BergPatrol p : shapes()) {
-            int[] ring = ring(p);
-            for (int k = 0; k < ring.length; k++) {
-                for (int corner : cornersOfSquares(p)) {
-                    Check.same("within " + Seas.limit(p), left(ring[k], ring[(k + 1) % ring.length], corner) >= 0, true);
+        for (Shape shape : shapes()) {
+            for (int k = 0; k < shape.ring.length; k++) {
+                for (int corner : shape.corners) {
+                    Check.same("within " + shape.told, left(shape.at(k), shape.at(k + 1), corner) >= 0, true);
                 }
             }
         }
@@ -133,21 +163,18 @@ public final class LimitEdgesTest {
 
     private static void ofTheseAlone() {
         Check.about("Terms 3: with corners of these alone");
-        for (BergPatrol p : shapes()) {
-            TreeSet<Integer> all = cornersOfSquares(p);
-            for (int corner : ring(p)) {
-                Check.same("a corner of a square, in " + Seas.limit(p), all.contains(corner), true);
+        for (Shape shape : shapes()) {
+            for (int corner : shape.ring) {
+                Check.same("a corner of a square, in " + shape.told, shape.corners.contains(corner), true);
             }
         }
     }
 
     private static void noneOnALine() {
         Check.about("Terms 3: none of which lies on a line between two others");
-        for (BergPatrol p : shapes()) {
-            int[] ring = ring(p);
-            for (int k = 0; k < ring.length; k++) {
-                int next = ring[(k + 1) % ring.length];
-                Check.same("a turn in " + Seas.limit(p), left(ring[k], next, ring[(k + 2) % ring.length]) > 0, true);
+        for (Shape shape : shapes()) {
+            for (int k = 0; k < shape.ring.length; k++) {
+                Check.same("a turn in " + shape.told, left(shape.at(k), shape.at(k + 1), shape.at(k + 2)) > 0, true);
             }
         }
         Check.same("a row", Seas.limit(Seas.with(5, 6, 7)), "5 0,8 0,8 1,5 1");
@@ -159,12 +186,11 @@ public final class LimitEdgesTest {
 
     private static void toldFrom() {
         Check.about("Terms 3: told from the one of the least x, of several of the least y, on");
-        for (BergPatrol p : shapes()) {
-            int[] ring = ring(p);
-            int first = ring[0];
-            for (int corner : ring) {
-                boolean isLess = corner % 100 < first % 100 || corner % 100 == first % 100 && corner / 100 < first / 100;
-                Check.same("before the first one in " + Seas.limit(p), isLess, false);
+        for (Shape shape : shapes()) {
+            int first = shape.at(0);
+            for (int corner : shape.corners) {
+                boolean isLess = corner % 100 < first % 100 || corner % 100 == first % 100 && corner < first;
+                Check.same("before the first one in " + shape.told, isLess, false);
             }
         }
         Check.same("the least x is high up", Seas.limit(Seas.with(260, 19)), "0 13,19 0,20 0,20 1,1 14,0 14");
@@ -173,14 +199,10 @@ public final class LimitEdgesTest {
 
     private static void roundLeft() {
         Check.about("Terms 3: round so that all others lie on the left hand of the way from each to the next one");
-        for (BergPatrol p : shapes()) {
-            int[] ring = ring(p);
-            for (int k = 0; k < ring.length; k++) {
-                for (int other = 0; other < ring.length; other++) {
-                    if (other != k && other != (k + 1) % ring.length) {
-                        boolean onTheLeft = left(ring[k], ring[(k + 1) % ring.length], ring[other]) > 0;
-                        Check.same("left in " + Seas.limit(p), onTheLeft, true);
-                    }
+        for (Shape shape : shapes()) {
+            for (int k = 0; k < shape.ring.length; k++) {
+                for (int other = k + 2; other < k + shape.ring.length; other++) {
+                    Check.same("left in " + shape.told, left(shape.at(k), shape.at(k + 1), shape.at(other)) > 0, true);
                 }
             }
         }
@@ -211,7 +233,8 @@ public final class LimitEdgesTest {
 
     private static void noSuchCorner() {
         Check.about("Promise 12: NONE if there is none such");
-        for (BergPatrol p : shapes()) {
+        BergPatrol[] some = {spread(), bitten(), atTheEnds(), round(), Seas.with(0)};
+        for (BergPatrol p : some) {
             int[] none = {-1, p.limit(), p.limit() + 1, Integer.MIN_VALUE, Integer.MAX_VALUE};
             for (int k : none) {
                 Check.same("x of corner " + k, p.corner(k, false), BergPatrol.NONE);

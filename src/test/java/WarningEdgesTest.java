@@ -21,6 +21,7 @@ public final class WarningEdgesTest {
         anOddNumber();
         justOneEndIsHigher();
         strictlyLeft();
+        wherever();
         theWholeSea();
         roundEitherWay();
         Check.end();
@@ -253,6 +254,22 @@ public final class WarningEdgesTest {
         Check.same("on a flat side, right", Seas.squaresOf("ring 0 0,3 0,0 1 end"), "0");
         Check.same("on a flat side, left", Seas.squaresOf("ring 3 0,3 1,0 1 end"), "1 2");
         Check.same("by the least that can be", Seas.squaresOf("ring 0 0,20 13,0 13 end").split(" ").length, 130);
+    }
+
+    private static void wherever() {
+        Check.about("Terms 3: where the side has the middle's height, wherever in the sea the side lies");
+        for (int x = 0; x <= 16; x += 4) {
+            for (int y = 0; y <= 10; y += 2) {
+                String ring = "ring " + x + " " + y + "," + (x + 4) + " " + (y + 2) + "," + x + " " + (y + 4) + " end";
+                // The slant sides are at x and 1, 3, 3, 1 at the middles' heights.
+                int[] by = {0, 20, 21, 22, 40, 41, 42, 60};
+                StringBuilder due = new StringBuilder();
+                for (int b : by) {
+                    due.append(due.length() > 0 ? " " : "").append(Seas.square(x, y) + b);
+                }
+                Check.same(ring, Seas.squaresOf(ring), due.toString());
+            }
+        }
     }
 
     private static void theWholeSea() {
