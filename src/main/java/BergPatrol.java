@@ -51,8 +51,8 @@ public final class BergPatrol {
         sea = new Sea();
         bergs = new ArrayList<Berg>();
         warnings = new ArrayList<Warning>();
-        tape = new Tape();
-        text = new Text(tape);
+        text = new Text();
+        tape = text.tape;
         hull = new Hull();
         chart = new Chart();
         heights = new Heights();
@@ -682,14 +682,14 @@ public final class BergPatrol {
         }
     }
 
-    /** Reads the tape as the text of a warning. */
+    /** Has the tape, and reads it as the text of a warning. */
     private static final class Text {
+        final Tape tape;
         final Ring ring;
-        private final Tape tape;
         private int at;
 
-        Text(Tape tape) {
-            this.tape = tape;
+        Text() {
+            tape = new Tape();
             ring = new Ring();
             at = 0;
         }
